@@ -79,13 +79,13 @@ public final class QuerySteps {
     public int node(int i, int what) {
         switch (what) {
             case 0:
-                return tree.sortOf(i);
+                return tree.sortAt(i);
             case 1:
-                return tree.indexOf(i);
+                return tree.indexAt(i);
             case 2:
-                return tree.leastOf(i);
+                return tree.leastAt(i);
             case 3:
-                return tree.greatestOf(i);
+                return tree.greatestAt(i);
             default:
                 return NONE;
         }
@@ -310,7 +310,7 @@ public final class QuerySteps {
 
         boolean isBroken(Tree tree) {
             for (int i = 0; i < tree.size(); i++) {
-                int index = tree.indexOf(i);
+                int index = tree.indexAt(i);
                 if (has(index) && !isOn[index]) {
                     return true;
                 }
@@ -427,19 +427,19 @@ public final class QuerySteps {
             return i >= 0 && i < size && i < MOST_NODES;
         }
 
-        int sortOf(int i) {
+        int sortAt(int i) {
             return has(i) ? sorts[i] : NONE;
         }
 
-        int indexOf(int i) {
+        int indexAt(int i) {
             return has(i) ? indexNumbers[i] : NONE;
         }
 
-        int leastOf(int i) {
+        int leastAt(int i) {
             return has(i) ? leasts[i] : NONE;
         }
 
-        int greatestOf(int i) {
+        int greatestAt(int i) {
             return has(i) ? greatests[i] : NONE;
         }
 
@@ -485,12 +485,12 @@ public final class QuerySteps {
         }
 
         private boolean isNodeLike(Tree other, int i) {
-            return sortOf(i) == other.sortOf(i) && indexOf(i) == other.indexOf(i)
-                    && leastOf(i) == other.leastOf(i) && greatestOf(i) == other.greatestOf(i);
+            return sortAt(i) == other.sortAt(i) && indexAt(i) == other.indexAt(i)
+                    && leastAt(i) == other.leastAt(i) && greatestAt(i) == other.greatestAt(i);
         }
 
         private void copyNode(int to, Tree other, int from) {
-            put(to, other.sortOf(from), other.indexOf(from), other.leastOf(from), other.greatestOf(from));
+            put(to, other.sortAt(from), other.indexAt(from), other.leastAt(from), other.greatestAt(from));
         }
 
         private void put(int i, int sort, int index, int least, int greatest) {
@@ -708,7 +708,7 @@ public final class QuerySteps {
         boolean isMet(Tree tree, int number) {
             int open = 0;
             for (int i = tree.size() - 1; i >= 0; i--) {
-                int sort = tree.sortOf(i);
+                int sort = tree.sortAt(i);
                 if (sort < AND) {
                     if (open >= 0 && open < MOST_NODES) {
                         met[open] = isSimpleMet(tree, i, number);
@@ -736,7 +736,7 @@ public final class QuerySteps {
             int start = (number - 1) * MOST_ENTRIES;
             int entries = Math.min(entryCounts[number - 1], MOST_ENTRIES);
             for (int e = 0; e < entries; e++) {
-                if (entryIndexes[start + e] == tree.indexOf(i) && isValueMet(tree, i, entryValues[start + e])) {
+                if (entryIndexes[start + e] == tree.indexAt(i) && isValueMet(tree, i, entryValues[start + e])) {
                     return true;
                 }
             }
@@ -744,12 +744,12 @@ public final class QuerySteps {
         }
 
         private static boolean isValueMet(Tree tree, int i, int value) {
-            int least = tree.leastOf(i);
-            switch (tree.sortOf(i)) {
+            int least = tree.leastAt(i);
+            switch (tree.sortAt(i)) {
                 case LEAF:
                     return value == least;
                 case RANGE:
-                    return value >= least && value <= tree.greatestOf(i);
+                    return value >= least && value <= tree.greatestAt(i);
                 default:
                     return isBeginning(least, value);
             }

@@ -3,6 +3,7 @@ public final class NearTest {
     private static final int NONE = QuerySteps.NONE;
 
     public static void main(String[] args) {
+        beforeATextIsRead();
         lettersPutInTakenOutChanged();
         whatIsUnknown();
         whatIsNot();
@@ -10,6 +11,11 @@ public final class NearTest {
         indexesAsTheyAreNow();
         longRows();
         Steps.end();
+    }
+
+    private static void beforeATextIsRead() {
+        Steps s = new Steps("a", "b");
+        Steps.due("near() before a text is read", s.q.near(), NONE);
     }
 
     private static void lettersPutInTakenOutChanged() {
@@ -26,6 +32,8 @@ public final class NearTest {
         first.dueUnknown(0, "cc=1", 0, 1);
         first.dueUnknown(0, "ba=1", 0, 2);
         first.dueUnknown(0, "abac=1", 0, 0);
+        Steps longFirst = new Steps("cdefghij", "ab");
+        longFirst.dueUnknown(0, "x=1", 0, 1);
         Steps moved = new Steps("bbbb", "abcd");
         moved.dueUnknown(0, "bcda=1", 0, 1);
     }
