@@ -6,6 +6,8 @@ import java.util.Random;
 /** Promises 8 to 13 and 15: random runs of calls against a model made of lists. */
 public final class RandomRunsTest {
     private static final List<String> NAMES = List.of("a", "b", "c");
+    /** A step looks at all hits, at most 60, or tells a text of four terms. */
+    private static final int MOST_A_STEP = 80;
 
     private final Random random = Steps.fixedRandom(7);
     private final Steps s = new Steps(NAMES.toArray(new String[0]));
@@ -21,9 +23,9 @@ public final class RandomRunsTest {
     }
 
     public static void main(String[] args) {
-        for (int seed = 0; seed < 500; seed++) {
+        for (int seed = 0; seed < 3000; seed++) {
             RandomRunsTest t = new RandomRunsTest(seed);
-            for (int i = 0; i < 400; i++) {
+            while (t.s.q.count() < Calls.MOST - MOST_A_STEP) {
                 t.step();
             }
         }

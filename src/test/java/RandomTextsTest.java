@@ -20,6 +20,8 @@ public final class RandomTextsTest {
             for (int spoils = t.random.nextInt(4); spoils > 0; spoils--) {
                 text = t.spoilt(text);
             }
+            // Signs beyond 200 are lost, but each is one of the 512 calls.
+            text = text.substring(0, Math.min(text.length(), 220));
             Oracle o = dueAsOracle(form, text);
             whole += o.tree != null ? 1 : 0;
             unknown += o.unknown != null ? 1 : 0;

@@ -1,119 +1,151 @@
-/** Promise 11: run. */
+/** Promise 11: run. Which records meet a tree is tested in MeetsTest. */
 public final class RunTest {
     private static final int NONE = QuerySteps.NONE;
 
     public static void main(String[] args) {
-        whatMeets();
-        beginnings();
-        joined();
-        order();
-        noneSuch();
-        brokenOnes();
-        manyNodes();
+        Steps.sentence("how many records meet it", RunTest::howMany);
+        Steps.sentence("how many records meet it: none", RunTest::none);
+        Steps.sentence("how many records meet it: all 60", RunTest::allSixty);
+        Steps.sentence("how many records meet it: there are no records", RunTest::noRecords);
+        Steps.sentence("they are THE HITS, in place of those before", RunTest::inPlaceOfThoseBefore);
+        Steps.sentence("by MOMENT, the latest first", RunTest::latestFirst);
+        Steps.sentence("by MOMENT: the least and the greatest long", RunTest::farMoments);
+        Steps.sentence("then by number", RunTest::thenByNumber);
+        Steps.sentence("all records, whatever was looked at", RunTest::allRecords);
+        Steps.sentence("NONE, and the hits stay, if there is none such", RunTest::noneSuch);
+        Steps.sentence("NONE, and the hits stay, if it is BROKEN", RunTest::broken);
+        Steps.sentence("BROKEN: while one of its indexes is off, not longer", RunTest::brokenNoLonger);
+        Steps.sentence("the records as they are now", RunTest::asTheyAreNow);
         Steps.end();
     }
 
-    private static Steps records(int... values) {
+    /** Records with the value 1 of index a at these MOMENTS. */
+    private static Steps at(long... moments) {
         Steps s = new Steps("a", "b");
-        for (int i = 0; i < values.length; i++) {
-            s.q.record(i);
-            s.q.entry(i + 1, 0, values[i]);
+        s.saved(0, 0, "a=1");
+        s.saved(1, 0, "a=2");
+        s.saved(2, 0, "a=1 or b=1");
+        for (int i = 0; i < moments.length; i++) {
+            s.q.record(moments[i]);
+            s.q.entry(i + 1, 0, 1);
         }
         return s;
     }
 
-    private static void dueRun(Steps s, String text, int... want) {
-        s.saved(0, 0, text);
-        s.dueHits("run of " + text, s.q.run(0), want);
+    private static void howMany() {
+        Steps s = at(1, 2);
+        Steps.due("run(0)", s.q.run(0), 2);
+        s.q.record(3);
+        Steps.due("run(0), one more that does not meet it", s.q.run(0), 2);
+        s.q.entry(3, 0, 1);
+        Steps.due("run(0), now it does", s.q.run(0), 3);
+        s.q.entry(3, 0, 1);
+        Steps.due("run(0), a record counts once", s.q.run(0), 3);
     }
 
-    private static void whatMeets() {
-        Steps s = records(5, 6, 7);
-        dueRun(s, "a=6", 2);
-        dueRun(s, "b=6");
-        dueRun(s, "a=6..7", 3, 2);
-        dueRun(s, "a=0..5", 1);
-        dueRun(s, "a=0..4");
-        dueRun(s, "a=8..99999");
-        s.q.entry(3, 0, 5);
-        dueRun(s, "a=5", 3, 1);
-        s.q.entry(3, 1, 6);
-        dueRun(s, "b=6", 3);
-        dueRun(s, "a=7 and b=6", 3);
-        dueRun(s, "b=5");
+    private static void none() {
+        Steps s = at(1, 2);
+        Steps.due("run(0)", s.q.run(0), 2);
+        s.dueHits("run(1)", s.q.run(1));
+        Steps.due("at(1)", s.q.at(1), 0);
     }
 
-    private static void beginnings() {
-        Steps s = records(0, 1, 10, 12, 19999, 2, 21, 100);
-        dueRun(s, "a=1*", 8, 5, 4, 3, 2);
-        dueRun(s, "a=0*", 1);
-        dueRun(s, "a=10*", 8, 3);
-        dueRun(s, "a=01*", 8, 5, 4, 3, 2);
-        dueRun(s, "a=19999*", 5);
-        dueRun(s, "a=2*", 7, 6);
-        dueRun(s, "a=100*", 8);
-        dueRun(s, "a=1000*");
-    }
-
-    private static void joined() {
-        Steps s = records(1, 2, 3, 4);
-        s.q.entry(1, 1, 1);
-        s.q.entry(3, 1, 1);
-        dueRun(s, "a=1..3 and b=1", 3, 1);
-        dueRun(s, "a=4 or b=1", 4, 3, 1);
-        dueRun(s, "a=1..3 not b=1", 2);
-        dueRun(s, "b=1 not a=1", 3);
-        dueRun(s, "a=1 or a=2 not b=1", 2);
-        dueRun(s, "a=1 or (a=2 not b=1)", 2, 1);
-        dueRun(s, "a=1 not (a=1 not b=2)");
-        dueRun(s, "a=0..9 not (b=1 or a=2)", 4);
-    }
-
-    private static void order() {
-        Steps s = new Steps("a");
-        long[] moments = {Long.MIN_VALUE, 3, 3, 7, 7, 7, Long.MAX_VALUE, Long.MAX_VALUE};
-        for (int i = 0; i < moments.length; i++) {
-            s.q.record(moments[i]);
-            s.q.entry(i + 1, 0, i);
-        }
-        dueRun(s, "a=0..9", 7, 8, 4, 5, 6, 2, 3, 1);
-        dueRun(s, "a=0..9 not a=4", 7, 8, 4, 6, 2, 3, 1);
-        Steps full = new Steps("a");
+    private static void allSixty() {
+        long[] moments = new long[60];
         int[] want = new int[60];
         for (int i = 0; i < 60; i++) {
-            full.q.record(i);
-            full.q.entry(i + 1, 0, 1);
+            moments[i] = i;
             want[i] = 60 - i;
         }
-        dueRun(full, "a=1", want);
+        Steps s = at(moments);
+        s.dueHits("run(0)", s.q.run(0), want);
+        s.dueHits("run(0) again", s.q.run(0), want);
+    }
+
+    private static void noRecords() {
+        Steps s = at();
+        s.dueHits("run(0)", s.q.run(0));
+    }
+
+    private static void inPlaceOfThoseBefore() {
+        Steps s = at(1, 2, 3);
+        s.q.entry(2, 0, 2);
+        s.dueHits("run(0)", s.q.run(0), 3, 2, 1);
+        s.dueHits("run(1)", s.q.run(1), 2);
+        Steps.due("at(2)", s.q.at(2), 0);
+    }
+
+    private static void latestFirst() {
+        Steps s = at(-7, -3, 0, 4, 1L << 40);
+        s.dueHits("run(0)", s.q.run(0), 5, 4, 3, 2, 1);
+    }
+
+    private static void farMoments() {
+        Steps s = at(Long.MIN_VALUE, -1, 0, Long.MAX_VALUE);
+        s.dueHits("run(0)", s.q.run(0), 4, 3, 2, 1);
+    }
+
+    private static void thenByNumber() {
+        Steps s = at(3, 3, 7, 7, 7, 9);
+        s.dueHits("run(0)", s.q.run(0), 6, 3, 4, 5, 1, 2);
+        Steps far = at(Long.MIN_VALUE, Long.MIN_VALUE, Long.MAX_VALUE, Long.MAX_VALUE);
+        far.dueHits("run(0)", far.q.run(0), 3, 4, 1, 2);
+        long[] sixty = new long[60];
+        int[] want = new int[60];
+        for (int i = 0; i < 60; i++) {
+            want[i] = i + 1;
+        }
+        Steps one = at(sixty);
+        one.dueHits("run(0) of one MOMENT", one.q.run(0), want);
+    }
+
+    private static void allRecords() {
+        Steps s = at(1, 2);
+        s.dueHits("alert(0)", s.q.alert(0), 2, 1);
+        s.dueHits("alert(0) again", s.q.alert(0));
+        s.dueHits("run(0)", s.q.run(0), 2, 1);
+        s.dueHits("run(0) again", s.q.run(0), 2, 1);
     }
 
     private static void noneSuch() {
-        Steps s = records(1);
-        dueRun(s, "a=1", 1);
-        int[] none = {-1, 1, 9, 10, Integer.MAX_VALUE, Integer.MIN_VALUE};
+        Steps s = at(1, 2);
+        s.dueHits("run(0)", s.q.run(0), 2, 1);
+        int[] none = {-1, 3, 9, 10, 256, Integer.MAX_VALUE, Integer.MIN_VALUE};
         for (int question : none) {
             Steps.due("run(" + question + ")", s.q.run(question), NONE);
-            Steps.due("at(0): the hits stay", s.q.at(0), 1);
+            Steps.due("at(0): the hits stay", s.q.at(0), 2);
+            Steps.due("at(1): the hits stay", s.q.at(1), 1);
+            Steps.due("at(2): the hits stay", s.q.at(2), 0);
         }
     }
 
-    private static void brokenOnes() {
-        Steps s = records(1, 2);
-        s.saved(1, 0, "a=1 or b=1");
-        dueRun(s, "a=2", 2);
+    private static void broken() {
+        Steps s = at(1, 2);
+        s.dueHits("run(0)", s.q.run(0), 2, 1);
         s.q.on(1, false);
-        Steps.due("run(1), which is BROKEN", s.q.run(1), NONE);
-        Steps.due("at(0): the hits stay", s.q.at(0), 2);
-        s.dueHits("run(0), which is not", s.q.run(0), 2);
-        s.q.on(1, true);
-        s.dueHits("run(1) again", s.q.run(1), 1);
+        Steps.due("run(2), which is BROKEN", s.q.run(2), NONE);
+        Steps.due("at(1): the hits stay", s.q.at(1), 1);
+        s.dueHits("run(1), which is not", s.q.run(1));
+        Steps.due("run(2), which is BROKEN", s.q.run(2), NONE);
+        Steps.due("at(0): no hits stay no hits", s.q.at(0), 0);
     }
 
-    private static void manyNodes() {
-        Steps s = records(1, 2);
-        dueRun(s, Steps.times("a=1 or ", 19) + "a=2", 2, 1);
-        dueRun(s, Steps.times("a=1 and ", 19) + "a=2");
-        dueRun(s, Steps.times("(a=2 or ", 19) + "a=1" + Steps.times(")", 19), 2, 1);
+    private static void brokenNoLonger() {
+        Steps s = at(1, 2);
+        s.q.on(1, false);
+        s.q.on(0, false);
+        Steps.due("run(2)", s.q.run(2), NONE);
+        s.q.on(1, true);
+        Steps.due("run(2), one still off", s.q.run(2), NONE);
+        s.q.on(0, true);
+        s.dueHits("run(2), both on", s.q.run(2), 2, 1);
+    }
+
+    private static void asTheyAreNow() {
+        Steps s = at(1);
+        s.dueHits("run(1)", s.q.run(1));
+        s.q.entry(1, 0, 2);
+        Steps.due("at(0): an entry changes no hits", s.q.at(0), 0);
+        s.dueHits("run(1) again", s.q.run(1), 1);
     }
 }

@@ -1,18 +1,35 @@
 import java.util.Random;
 
-/** A QuerySteps that takes whole texts, and the count of answers that are not as due. */
+/** An object that takes whole texts, and the count of answers that are not as due. */
 final class Steps {
+    private static int answers = 0;
     private static int wrong = 0;
 
-    final QuerySteps q = new QuerySteps();
+    final Calls q = new Calls();
 
     Steps(String... names) {
         for (int i = 0; i < names.length; i++) {
-            due("index of " + names[i], index(names[i]), i);
+            int got = index(names[i]);
+            // Only a wrong answer counts here, so that a sentence needs answers of its own.
+            if (got != i) {
+                due("index of " + names[i], got, i);
+            }
+        }
+    }
+
+    /** The test of one sentence of the document, which is told if an answer is not as due. */
+    static void sentence(String words, Runnable test) {
+        int answersBefore = answers;
+        int wrongBefore = wrong;
+        test.run();
+        due("answers that test: " + words, answers > answersBefore, true);
+        if (wrong > wrongBefore) {
+            System.out.println("  this does not hold: " + words);
         }
     }
 
     static void due(String call, long got, long want) {
+        answers++;
         if (got != want) {
             wrong++;
             System.out.println(call + " answered " + got + ", due is " + want);
