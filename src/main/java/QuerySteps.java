@@ -360,8 +360,9 @@ public final class QuerySteps {
             return true;
         }
 
+        /** Kept to what a NAME may have, as rows of letters and changes are entered by it. */
         private int lengthOf(int index) {
-            return has(index) ? lengths[index] : 0;
+            return has(index) ? Math.max(0, Math.min(lengths[index], MOST_LETTERS)) : 0;
         }
 
         private int letterOf(int index, int j) {

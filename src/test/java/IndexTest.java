@@ -128,6 +128,9 @@ public final class IndexTest {
         Steps s = new Steps("ands", "an", "o", "nota", "xor", "nand", "no", "r");
         s.dueTree(0, "ands=1 and nota=2", 3, NONE, NONE, NONE, 0, 0, 1, NONE, 0, 3, 2, NONE);
         s.dueTree(1, "or ( xor 1 ) ( nand 2 )", 4, NONE, NONE, NONE, 0, 4, 1, NONE, 0, 5, 2, NONE);
+        Steps oneLetter = new Steps("end", "add", "ant", "er", "of", "dot", "nut", "now");
+        oneLetter.dueTree(0, "end=1 and dot=2", 3, NONE, NONE, NONE, 0, 0, 1, NONE, 0, 5, 2, NONE);
+        oneLetter.dueTree(1, "er 3", 0, 3, 3, NONE);
     }
 
     private static void eightAtMost() {

@@ -156,6 +156,12 @@ public final class WrongTest {
         s.dueWrong(0, "a=1 an", 4);
         s.dueWrong(0, "a=1 no", 4);
         s.dueWrong(0, "a=1 o", 4);
+        String[] oneLetterOff = {"end", "add", "ant", "er", "of", "dot", "nut", "now"};
+        for (String word : oneLetterOff) {
+            s.dueWrong(0, "a=1 " + word + " a=2", 4);
+            s.dueWrong(1, word + " ( a 1 ) ( a 2 )", 0);
+        }
+        s = new Steps("a");
         s.dueWrong(0, "a=1 And a=2", 4);
         s.dueWrong(0, "a=1 anD a=2", 4);
         s.dueWrong(0, "a=1 a=2", 4);
